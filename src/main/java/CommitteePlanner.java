@@ -39,6 +39,7 @@ public final class CommitteePlanner {
     private final Plan saved;
     private final History history;
     private final Input input;
+    private final Completion completion;
     private boolean hasSaved;
     private int keptReason;
     private int keptErrorPosition;
@@ -48,6 +49,7 @@ public final class CommitteePlanner {
         saved = new Plan();
         history = new History();
         input = new Input();
+        completion = new Completion();
         keptReason = NONE;
         keptErrorPosition = NONE;
     }
@@ -175,11 +177,12 @@ public final class CommitteePlanner {
     public int leave(int thesis, int person) throws IndexOutOfBoundsException, IllegalStateException {
         Thesis one = thesisOf(thesis);
         Person member = personOf(person);
-        if (!plan.canDismiss(one, member)) {
+        if (!plan.canLeave(one, member)) {
             throw new IllegalStateException("the person is not a member, or the thesis is defended");
         }
         history.remember(plan);
-        plan.dismiss(one, member);
+        one.members &= ~member.bit();
+        plan.keepPlaceByQuorum(one);
         return one.memberCount();
     }
 
@@ -206,7 +209,7 @@ public final class CommitteePlanner {
         if (!isBelow(what, QUORUM_NUMBERS)) {
             throw new IllegalArgumentException("what is not 0 to 4");
         }
-        return plan.lackOf(one, one.members, what);
+        return plan.lackOf(one, what);
     }
 
     public int replacements(int thesis, int member) throws IndexOutOfBoundsException, IllegalStateException {
@@ -481,7 +484,7 @@ public final class CommitteePlanner {
     }
 
     private int completionOf(Thesis thesis) throws NoSuchElementException {
-        int joiners = plan.completionFor(thesis);
+        int joiners = completion.find(plan, thesis);
         if (joiners == NONE) {
             throw new NoSuchElementException("the committee cannot be completed");
         }
@@ -802,27 +805,30 @@ public final class CommitteePlanner {
 
         // -- committees
 
-        int lackOf(Thesis thesis, int members, int what) {
-            int lack = thesis.needed(what);
+        /** The persons who count for a number of the quorum, as a set. */
+        int countingFor(Thesis thesis, int what) {
+            int set = 0;
             for (Person person : persons) {
-                if (person.isIn(members) && thesis.counts(person, what)) {
-                    lack--;
+                if (thesis.counts(person, what)) {
+                    set |= person.bit();
                 }
             }
-            return Math.max(lack, 0);
+            return set;
         }
 
-        /** The greatest number that the quorum lacks if these are the members; 0 if it holds. */
-        int greatestLack(Thesis thesis, int members) {
-            int lack = 0;
+        int lackOf(Thesis thesis, int what) {
+            int has = Integer.bitCount(countingFor(thesis, what) & thesis.members);
+            return Math.max(thesis.needed(what) - has, 0);
+        }
+
+        /** Whether the quorum holds if these are the members. */
+        boolean quorumHolds(Thesis thesis, int members) {
             for (int what = 0; what < QUORUM_NUMBERS; what++) {
-                lack = Math.max(lack, lackOf(thesis, members, what));
+                if (Integer.bitCount(countingFor(thesis, what) & members) < thesis.needed(what)) {
+                    return false;
+                }
             }
-            return lack;
-        }
-
-        boolean hasQuorum(Thesis thesis) {
-            return greatestLack(thesis, thesis.members) == 0;
+            return true;
         }
 
         /** Why a person could not join if these were the members, or 0. */
@@ -864,22 +870,17 @@ public final class CommitteePlanner {
             return set;
         }
 
-        boolean canDismiss(Thesis thesis, Person person) {
+        boolean canLeave(Thesis thesis, Person person) {
             return person.isIn(thesis.members) && !thesis.isDefended();
-        }
-
-        void dismiss(Thesis thesis, Person person) {
-            thesis.members &= ~person.bit();
-            keepPlaceByQuorum(thesis);
         }
 
         /** Takes the place away if the quorum does not hold; returns whether it holds. */
         boolean keepPlaceByQuorum(Thesis thesis) {
-            if (greatestLack(thesis, thesis.members) > 0) {
+            boolean holds = quorumHolds(thesis, thesis.members);
+            if (!holds) {
                 thesis.losePlace();
-                return false;
             }
-            return true;
+            return holds;
         }
 
         int replacementsFor(Thesis thesis, Person member) {
@@ -887,51 +888,11 @@ public final class CommitteePlanner {
             int joiners = possibleJoiners(thesis, others) & ~member.bit();
             int set = 0;
             for (Person person : persons) {
-                if (person.isIn(joiners) && greatestLack(thesis, others | person.bit()) == 0) {
+                if (person.isIn(joiners) && quorumHolds(thesis, others | person.bit())) {
                     set |= person.bit();
                 }
             }
             return set;
-        }
-
-        /** The set of the fewest persons that completes a committee, or NONE. */
-        int completionFor(Thesis thesis) {
-            int joiners = possibleJoiners(thesis, thesis.members);
-            int most = thesis.mostMembers() - thesis.memberCount();
-            for (int size = 0; size <= most; size++) {
-                int set = completionBy(this, thesis, 0, joiners, size);
-                if (set != NONE) {
-                    return set;
-                }
-            }
-            return NONE;
-        }
-
-        /**
-         * Adds so many of the joiners to the persons chosen so far, the lower ones first, until the
-         * quorum holds. The number of persons, which falls with each level, bounds the recursion.
-         */
-        private static int completionBy(Plan plan, Thesis thesis, int chosen, int joiners, int size) {
-            // a person lessens each lack by one at most
-            if (plan.greatestLack(thesis, thesis.members | chosen) > size
-                    || Integer.bitCount(joiners) < size) {
-                return NONE;
-            }
-            if (size <= 0) {
-                return chosen;
-            }
-            int left = joiners;
-            for (Person person : plan.persons) {
-                if (person.isIn(left)) {
-                    left &= ~person.bit();
-                    int set = completionBy(plan, thesis, chosen | person.bit(),
-                            left & ~person.conflicts, size - 1);
-                    if (set != NONE) {
-                        return set;
-                    }
-                }
-            }
-            return NONE;
         }
 
         // -- defences
@@ -963,7 +924,7 @@ public final class CommitteePlanner {
             if (thesis.isDefended()) {
                 return 8;
             }
-            if (!hasQuorum(thesis)) {
+            if (!quorumHolds(thesis, thesis.members)) {
                 return 9;
             }
             if ((hoursInRoom(room, day, thesis) & TWO_HOURS << hour) != 0) {
@@ -982,7 +943,7 @@ public final class CommitteePlanner {
 
         /** The time as earliest tells it, or NONE. */
         int earliestTime(Thesis thesis) {
-            if (thesis.isDefended() || !hasQuorum(thesis)) {
+            if (thesis.isDefended() || !quorumHolds(thesis, thesis.members)) {
                 return NONE;
             }
             for (int day = firstDayFor(thesis); day <= LAST_DAY; day++) {
@@ -1054,12 +1015,12 @@ public final class CommitteePlanner {
         int serveLine() {
             int served = 0;
             for (int i = 0; i < lineLength; i++) {
-                Thesis thesis = theses[line[i]];
-                int time = earliestTime(thesis);
+                int number = line[i];
+                int time = isBelow(number, thesisCount) ? earliestTime(theses[number]) : NONE;
                 if (time == NONE) {
-                    line[i - served] = line[i];
+                    line[i - served] = number;
                 } else {
-                    thesis.takePlace(time % 10, time / 100, time / 10 % 10);
+                    theses[number].takePlace(time % 10, time / 100, time / 10 % 10);
                     served++;
                 }
             }
@@ -1115,7 +1076,7 @@ public final class CommitteePlanner {
         int quorumCount() {
             int count = 0;
             for (Thesis thesis : theses) {
-                count += hasQuorum(thesis) ? 1 : 0;
+                count += quorumHolds(thesis, thesis.members) ? 1 : 0;
             }
             return count;
         }
@@ -1178,10 +1139,11 @@ public final class CommitteePlanner {
         }
 
         private int leaveEntry(Thesis thesis, int person) {
-            if (!isBelow(person, personCount) || !canDismiss(thesis, persons[person])) {
+            if (!isBelow(person, personCount) || !canLeave(thesis, persons[person])) {
                 return CANNOT;
             }
-            dismiss(thesis, persons[person]);
+            thesis.members &= ~persons[person].bit();
+            keepPlaceByQuorum(thesis);
             return DONE;
         }
 
@@ -1203,6 +1165,72 @@ public final class CommitteePlanner {
             }
             thesis.stage++;
             return DONE;
+        }
+    }
+
+    /** The search for the persons who complete a committee. */
+    private static final class Completion {
+        /** For each number of the quorum the persons who count for it, as sets. */
+        final int[] counting;
+
+        Completion() {
+            counting = new int[QUORUM_NUMBERS];
+        }
+
+        /** The set of the fewest persons, or NONE. */
+        int find(Plan plan, Thesis thesis) {
+            for (int what = 0; what < QUORUM_NUMBERS; what++) {
+                counting[what] = plan.countingFor(thesis, what);
+            }
+            int joiners = plan.possibleJoiners(thesis, thesis.members);
+            int most = thesis.mostMembers() - thesis.memberCount();
+            for (int size = 0; size <= most; size++) {
+                int set = choose(this, plan, thesis, 0, joiners, size);
+                if (set != NONE) {
+                    return set;
+                }
+            }
+            return NONE;
+        }
+
+        /**
+         * Adds so many of the joiners to those chosen so far that the quorum holds, the lower ones
+         * first. The number of them falls with each level, and so bounds the recursion.
+         */
+        private static int choose(Completion search, Plan plan, Thesis thesis, int chosen, int joiners,
+                int size) {
+            if (search.isHopeless(thesis, thesis.members | chosen, joiners, size)) {
+                return NONE;
+            }
+            if (size <= 0) {
+                return chosen;
+            }
+            int left = joiners;
+            for (Person person : plan.persons) {
+                if (person.isIn(left)) {
+                    left &= ~person.bit();
+                    int set = choose(search, plan, thesis, chosen | person.bit(),
+                            left & ~person.conflicts, size - 1);
+                    if (set != NONE) {
+                        return set;
+                    }
+                }
+            }
+            return NONE;
+        }
+
+        /** Whether so many joiners cannot give what the quorum lacks, even without their conflicts. */
+        private boolean isHopeless(Thesis thesis, int members, int joiners, int size) {
+            if (Integer.bitCount(joiners) < size) {
+                return true;
+            }
+            for (int what = 0; what < QUORUM_NUMBERS; what++) {
+                int lack = thesis.needed(what) - Integer.bitCount(counting[what] & members);
+                if (lack > size || lack > Integer.bitCount(counting[what] & joiners)) {
+                    return true;
+                }
+            }
+            return false;
         }
     }
 

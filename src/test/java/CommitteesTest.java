@@ -419,11 +419,21 @@ public final class CommitteesTest {
         Make.join(planner, 0, 0, 1, 2);
         Check.due("17: more than the members that lack", Make.set(3, 4), () -> planner.completion(0));
         Check.due("18: complete", 2, () -> planner.complete(0));
+        Check.due("18: members stay", Make.set(0, 1, 2, 3, 4), () -> planner.thesis(0, 5));
         Check.fails("17: no room for more", NONE, () -> {
             planner.addThesis(0, 5, 0, 0);
             Make.join(planner, 1, 0, 1, 2, 4);
             return planner.completion(1);
         });
+        CommitteePlanner crowded = new CommitteePlanner();
+        for (int i = 0; i < 6; i++) {
+            crowded.addPerson(i == 4 ? 0 : 1, i == 5 ? 1 : 0, 0, 6);
+        }
+        crowded.addThesis(0, 0, 0, 0);
+        Make.join(crowded, 0, 0, 1, 2, 3);
+        Check.fails("17: room for one of two", NONE, () -> crowded.completion(0));
+        crowded.leave(0, 2);
+        Check.due("17: room for both", Make.set(4, 5), () -> crowded.completion(0));
         CommitteePlanner big = new CommitteePlanner();
         for (int i = 0; i < 8; i++) {
             big.addPerson(i < 5 ? 1 : 0, 63, i % 2, 1);

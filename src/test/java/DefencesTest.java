@@ -109,6 +109,16 @@ public final class DefencesTest {
         planner.leave(1, 0);
         planner.leave(1, 3);
         refusedPlace(planner, 1, 1, 30, 3, 9);
+        CommitteePlanner room = Make.professors(10);
+        for (int i = 0; i < 3; i++) {
+            room.addThesis(0, 0, 0, 9);
+            Make.join(room, i, 3 * i, 3 * i + 1, 3 * i + 2);
+        }
+        room.place(0, 1, 30, 0);
+        room.place(1, 1, 30, 4);
+        refusedPlace(room, 2, 1, 30, 1, 10);
+        refusedPlace(room, 2, 1, 30, 5, 10);
+        Check.due("20: between two defences", 9, () -> room.place(2, 1, 30, 2));
         CommitteePlanner done = Make.defended();
         refusedPlace(done, 0, 0, 60, 0, 8);
         done.addThesis(0, 0, 0, 5);

@@ -48,7 +48,8 @@ public final class PersonsTest {
         planner.setBusy(0, 7, 7, true);
         planner.addThesis(1, 2, 3, 4);
         planner.await(1);
-        planner.pass(10);
+        planner.pass(9);
+        planner.goOn(0);
         planner.save();
         Check.fails("2: a refusal", UnsupportedOperationException.class, () -> planner.join(0, 0));
         Check.fails("2: a wrong text", ARGUMENT, () -> Make.read(planner, "d1"));
@@ -70,10 +71,19 @@ public final class PersonsTest {
         Check.due("2: cleared, addThesis", 0, () -> planner.addThesis(0, 0, 0, 0));
         Check.due("2: cleared, no members", 0, () -> planner.thesis(0, 5));
         Check.due("2: cleared, no place", -1, () -> planner.thesis(0, 7));
+        Check.due("2: cleared, registered", 0, () -> planner.thesis(0, 4));
         Check.due("2: cleared, restore", 2, planner::restore);
         Check.due("2: restored", 6, () -> planner.account(0));
+        int[] limits = {0, 1, 0, 6};
+        for (int what = 0; what < 4; what++) {
+            int asked = what;
+            Check.due("2: restored, person", limits[what], () -> planner.person(0, asked));
+        }
         planner.clear();
         Check.due("2: the input stayed", 1, planner::read);
+        CommitteePlanner done = Make.defended();
+        done.clear();
+        Check.due("2: cleared, nothing is defended", 0, () -> done.account(3));
     }
 
     private static void promise3() {
@@ -199,6 +209,16 @@ public final class PersonsTest {
         planner.setBusy(3, 400, 4, true);
         Check.due("7: busy in the first hour", false, () -> planner.isFree(3, 400, 4));
         Check.due("7: between busy hours", true, () -> planner.isFree(3, 400, 5));
+        planner.setBusy(0, 30, 0, true);
+        planner.addThesis(0, 0, 0, 5);
+        Make.join(planner, 1, 0, 3, 4);
+        planner.place(1, 1, 30, 5);
+        boolean[] freeThen = {false, false, false, false, false, false, false};
+        for (int hour = 0; hour < 7; hour++) {
+            int first = hour;
+            Check.due("7: busy and two defences, hour " + hour, freeThen[hour], () -> planner.isFree(0, 30, first));
+        }
+        Check.due("7: the other one's member", true, () -> planner.isFree(3, 30, 3));
         CommitteePlanner done = Make.defended();
         Check.due("7: a defended defence keeps its hours", false, () -> done.isFree(0, 30, 1));
         Check.fails("7: no such person", INDEX, () -> planner.isFree(6, -1, 0));

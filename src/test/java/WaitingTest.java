@@ -70,6 +70,10 @@ public final class WaitingTest {
         Check.due("29: not waiting", 0, () -> planner.thesis(1, 9));
         planner.undo();
         Check.due("29: undone, the line", 3, () -> planner.account(6));
+        for (int i = 0; i < 3; i++) {
+            int place = i;
+            Check.due("29: undone, its places", 2 - i, () -> planner.waiting(place));
+        }
         Check.due("29: undone, the places", 0, () -> planner.account(2));
         CommitteePlanner rooms = threeTheses();
         rooms.setBusy(0, 21, 1, true);
@@ -117,6 +121,11 @@ public final class WaitingTest {
         Check.due("29: the line", 1, () -> order.waiting(1));
         Check.due("29: the line", 0, () -> order.waiting(2));
         Check.fails("29: the end of the line", NONE, () -> order.waiting(3));
+        order.undo();
+        for (int i = 0; i < 4; i++) {
+            int place = i;
+            Check.due("29: undone, the line", 3 - i, () -> order.waiting(place));
+        }
     }
 
     private static void promise30() {
