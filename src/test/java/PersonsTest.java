@@ -82,8 +82,18 @@ public final class PersonsTest {
         planner.clear();
         Check.due("2: the input stayed", 1, planner::read);
         CommitteePlanner done = Make.defended();
+        done.addThesis(0, 0, 0, 5);
+        Make.join(done, 1, 0, 1, 2);
+        done.place(1, 1, 60, 0);
+        done.pass(99);
+        Check.due("2: a place is lost", 1, () -> done.account(8));
         done.clear();
         Check.due("2: cleared, nothing is defended", 0, () -> done.account(3));
+        Check.due("2: cleared, nothing is lost", 0, () -> done.account(8));
+        for (int i = 0; i < 6; i++) {
+            done.addPerson(0, 1, 0, 6);
+        }
+        Check.due("2: cleared, nothing is supervised", 0, () -> done.person(5, 6));
     }
 
     private static void promise3() {

@@ -59,6 +59,11 @@ public final class TextsTest {
         Make.type(planner, "1;" + "d1;".repeat(19));
         Check.due("35: a full input", 20, planner::read);
         Check.due("35: 20 days", 128, () -> planner.account(7));
+        CommitteePlanner left = Make.defence();
+        Check.due("35: leave", 1, () -> Make.read(left, "l0,2;"));
+        Check.due("35: the place is lost by leaving", -1, () -> left.thesis(0, 7));
+        Check.due("35: a place again", 2, () -> Make.read(left, "j0,3;p0@0,400,0;"));
+        Check.due("35: the last day", 400, () -> left.thesis(0, 7));
         CommitteePlanner many = Make.professors(14);
         many.addThesis(0, 0, 0, 5);
         Check.due("35: persons of two digits", 2, () -> Make.read(many, "j0,13;j0,010;"));
