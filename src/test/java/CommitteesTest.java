@@ -31,16 +31,16 @@ public final class CommitteesTest {
         CommitteePlanner planner = Make.professors(2);
         Check.due("9: addThesis", 0, () -> planner.addThesis(0, 0, 0, 0));
         Check.due("9: addThesis", 1, () -> planner.addThesis(2, 5, 3, 1));
-        Check.failsUnchanged("9: no such supervisor", INDEX, planner, () -> planner.addThesis(0, 0, 0, 2));
+        Check.fails("9: no such supervisor", INDEX, () -> planner.addThesis(0, 0, 0, 2));
         Check.fails("9: no supervisor comes first", INDEX, () -> planner.addThesis(9, 9, 9, -1));
         int[][] wrong = {{-1, 0, 0}, {3, 0, 0}, {0, -1, 0}, {0, 6, 0}, {0, 0, -1}, {0, 0, 4}};
         for (int[] a : wrong) {
-            Check.failsUnchanged("9: out of range", ARGUMENT, planner, () -> planner.addThesis(a[0], a[1], a[2], 0));
+            Check.fails("9: out of range", ARGUMENT, () -> planner.addThesis(a[0], a[1], a[2], 0));
         }
         for (int i = 2; i < 8; i++) {
             Check.due("9: addThesis", i, () -> planner.addThesis(1, 1, 1, 0));
         }
-        Check.failsUnchanged("9: a ninth thesis", STATE, planner, () -> planner.addThesis(1, 1, 1, 0));
+        Check.fails("9: a ninth thesis", STATE, () -> planner.addThesis(1, 1, 1, 0));
         Check.fails("9: out of range comes before", ARGUMENT, () -> planner.addThesis(3, 1, 1, 0));
         Check.due("9: theses", 8, () -> planner.account(1));
     }
@@ -81,9 +81,9 @@ public final class CommitteesTest {
         Check.due("11: the supervisor, kind 0", 1, () -> planner.join(0, 0));
         Check.due("11: join", 2, () -> planner.join(0, 4));
         Check.due("11: members", Make.set(0, 4), () -> planner.thesis(0, 5));
-        Check.failsUnchanged("11: no such thesis", INDEX, planner, () -> planner.join(1, 0));
-        Check.failsUnchanged("11: no such person", INDEX, planner, () -> planner.join(0, 7));
-        Check.failsUnchanged("11: no such person", INDEX, planner, () -> planner.join(0, -1));
+        Check.fails("11: no such thesis", INDEX, () -> planner.join(1, 0));
+        Check.fails("11: no such person", INDEX, () -> planner.join(0, 7));
+        Check.fails("11: no such person", INDEX, () -> planner.join(0, -1));
         Check.due("11: join is a change", 8, () -> {
             planner.undo();
             return planner.account(0) + planner.account(4);
@@ -205,11 +205,11 @@ public final class CommitteesTest {
         }
         Check.due("12: lost, but not by days", 0, () -> planner.account(8));
         Check.due("12: undo gives the place back", 0, () -> planner.undo() * 0 + planner.thesis(0, 6));
-        Check.failsUnchanged("12: not a member", STATE, planner, () -> planner.leave(0, 4));
-        Check.failsUnchanged("12: no such thesis", INDEX, planner, () -> planner.leave(1, 0));
-        Check.failsUnchanged("12: no such person", INDEX, planner, () -> planner.leave(0, 6));
+        Check.fails("12: not a member", STATE, () -> planner.leave(0, 4));
+        Check.fails("12: no such thesis", INDEX, () -> planner.leave(1, 0));
+        Check.fails("12: no such person", INDEX, () -> planner.leave(0, 6));
         CommitteePlanner done = Make.defended();
-        Check.failsUnchanged("12: defended", STATE, done, () -> done.leave(0, 0));
+        Check.fails("12: defended", STATE, () -> done.leave(0, 0));
         CommitteePlanner stage = Make.defence();
         stage.goOn(0);
         stage.leave(0, 1);
@@ -225,11 +225,11 @@ public final class CommitteesTest {
         Check.due("13: by the same person", 1, () -> planner.replace(0, 3, 3));
         Check.due("13: members stay", Make.set(0, 2, 3), () -> planner.thesis(0, 5));
         Check.due("13: it is a change", 5, planner::undo);
-        Check.failsUnchanged("13: no such thesis", INDEX, planner, () -> planner.replace(1, 0, 0));
-        Check.failsUnchanged("13: no such member", INDEX, planner, () -> planner.replace(0, 7, 0));
-        Check.failsUnchanged("13: no such person", INDEX, planner, () -> planner.replace(0, 4, 7));
-        Check.failsUnchanged("13: not a member", STATE, planner, () -> planner.replace(0, 4, 1));
-        Check.failsUnchanged("13: not a member, nor a joiner", STATE, planner, () -> planner.replace(0, 4, 0));
+        Check.fails("13: no such thesis", INDEX, () -> planner.replace(1, 0, 0));
+        Check.fails("13: no such member", INDEX, () -> planner.replace(0, 7, 0));
+        Check.fails("13: no such person", INDEX, () -> planner.replace(0, 4, 7));
+        Check.fails("13: not a member", STATE, () -> planner.replace(0, 4, 1));
+        Check.fails("13: not a member, nor a joiner", STATE, () -> planner.replace(0, 4, 0));
         CommitteePlanner guest = new CommitteePlanner();
         guest.addPerson(0, 1, 0, 6);
         guest.addPerson(1, 1, 0, 6);
@@ -296,7 +296,7 @@ public final class CommitteesTest {
     private static void promise14() {
         CommitteePlanner planner = Make.committee();
         Check.due("14: could join", 0, () -> planner.whyNotJoin(0, 3));
-        Check.dueUnchanged("14: only a question", 1, planner, () -> planner.whyNotJoin(0, 0));
+        Check.due("14: only a question", 1, () -> planner.whyNotJoin(0, 0));
         Check.fails("14: keeps no reason", NONE, planner::reason);
         Check.fails("14: no such thesis", INDEX, () -> planner.whyNotJoin(1, 0));
         Check.fails("14: no such thesis", INDEX, () -> planner.whyNotJoin(-1, 0));
@@ -339,7 +339,7 @@ public final class CommitteesTest {
 
     private static void promise16() {
         CommitteePlanner planner = Make.committee();
-        Check.dueUnchanged("16: replacements", Make.set(3, 4, 5), planner, () -> planner.replacements(0, 1));
+        Check.due("16: replacements", Make.set(3, 4, 5), () -> planner.replacements(0, 1));
         planner.addPerson(1, 0, 0, 6);
         Check.due("16: a doctor for one of three", Make.set(3, 4, 5, 6), () -> planner.replacements(0, 1));
         planner.setConflict(3, 1, true);
@@ -374,7 +374,7 @@ public final class CommitteesTest {
     private static void promise17() {
         CommitteePlanner planner = Make.professors(7);
         planner.addThesis(0, 0, 0, 6);
-        Check.dueUnchanged("17: completion", Make.set(0, 1, 2), planner, () -> planner.completion(0));
+        Check.due("17: completion", Make.set(0, 1, 2), () -> planner.completion(0));
         planner.join(0, 4);
         Check.due("17: with a member", Make.set(0, 1), () -> planner.completion(0));
         planner.setConflict(0, 4, true);
@@ -391,7 +391,7 @@ public final class CommitteesTest {
         Check.fails("17: no such thesis", INDEX, () -> planner.completion(-1));
         CommitteePlanner two = Make.professors(2);
         two.addThesis(0, 0, 0, 0);
-        Check.failsUnchanged("17: too few persons", NONE, two, () -> two.completion(0));
+        Check.fails("17: too few persons", NONE, () -> two.completion(0));
         CommitteePlanner done = Make.defended();
         Check.due("17: defended, the quorum holds", 0, () -> done.completion(0));
         CommitteePlanner rows = new CommitteePlanner();
@@ -464,8 +464,8 @@ public final class CommitteesTest {
         planner.setConflict(5, 1, true);
         planner.setConflict(5, 2, true);
         planner.setConflict(5, 3, true);
-        Check.failsUnchanged("18: there is none", NONE, planner, () -> planner.complete(0));
-        Check.failsUnchanged("18: no such thesis", INDEX, planner, () -> planner.complete(1));
+        Check.fails("18: there is none", NONE, () -> planner.complete(0));
+        Check.fails("18: no such thesis", INDEX, () -> planner.complete(1));
         Check.fails("18: keeps no reason", NONE, planner::reason);
         CommitteePlanner done = Make.defended();
         Check.due("18: defended", 0, () -> done.complete(0));
@@ -483,6 +483,6 @@ public final class CommitteesTest {
         planner.undo();
         Check.due("19: stays behind undo", 1, planner::reason);
         planner.clear();
-        Check.dueUnchanged("19: stays behind clear", 1, planner, planner::reason);
+        Check.due("19: stays behind clear", 1, planner::reason);
     }
 }

@@ -66,12 +66,12 @@ public final class DefencesTest {
         Check.due("20: the same again", 379, () -> planner.place(0, 2, 400, 5));
         Check.due("20: the same again is a change", 5, planner::undo);
         Check.due("20: the first day", 0, () -> planner.place(0, 1, 21, 0));
-        Check.failsUnchanged("20: no such thesis", INDEX, planner, () -> planner.place(1, 0, 30, 0));
-        Check.failsUnchanged("20: no such room", INDEX, planner, () -> planner.place(0, 3, 401, 0));
-        Check.failsUnchanged("20: no such room", INDEX, planner, () -> planner.place(0, -1, 30, 0));
+        Check.fails("20: no such thesis", INDEX, () -> planner.place(1, 0, 30, 0));
+        Check.fails("20: no such room", INDEX, () -> planner.place(0, 3, 401, 0));
+        Check.fails("20: no such room", INDEX, () -> planner.place(0, -1, 30, 0));
         int[][] wrong = {{-1, 0}, {401, 0}, {30, -1}, {30, 7}, {Integer.MAX_VALUE, Integer.MIN_VALUE}};
         for (int[] a : wrong) {
-            Check.failsUnchanged("20: out of range", ARGUMENT, planner, () -> planner.place(0, 0, a[0], a[1]));
+            Check.fails("20: out of range", ARGUMENT, () -> planner.place(0, 0, a[0], a[1]));
         }
     }
 
@@ -158,18 +158,18 @@ public final class DefencesTest {
         }
         Check.due("21: members stay", 7, () -> planner.thesis(0, 5));
         Check.due("21: not lost by days", 0, () -> planner.account(8));
-        Check.failsUnchanged("21: not placed", STATE, planner, () -> planner.takeBack(0));
-        Check.failsUnchanged("21: no such thesis", INDEX, planner, () -> planner.takeBack(1));
+        Check.fails("21: not placed", STATE, () -> planner.takeBack(0));
+        Check.fails("21: no such thesis", INDEX, () -> planner.takeBack(1));
         planner.undo();
         Check.due("21: undone", 30, () -> planner.thesis(0, 7));
         CommitteePlanner done = Make.defended();
-        Check.failsUnchanged("21: defended", STATE, done, () -> done.takeBack(0));
+        Check.fails("21: defended", STATE, () -> done.takeBack(0));
     }
 
     private static void promise22() {
         CommitteePlanner planner = Make.committee();
-        Check.dueUnchanged("22: could be placed", 0, planner, () -> planner.whyNotPlace(0, 0, 30, 0));
-        Check.dueUnchanged("22: only a question", 12, planner, () -> planner.whyNotPlace(0, 0, 3, 0));
+        Check.due("22: could be placed", 0, () -> planner.whyNotPlace(0, 0, 30, 0));
+        Check.due("22: only a question", 12, () -> planner.whyNotPlace(0, 0, 3, 0));
         Check.fails("22: keeps no reason", NONE, planner::reason);
         Check.fails("22: no such thesis", INDEX, () -> planner.whyNotPlace(1, 0, 0, 0));
         Check.fails("22: no such room", INDEX, () -> planner.whyNotPlace(0, 3, -1, 0));
@@ -181,7 +181,7 @@ public final class DefencesTest {
 
     private static void promise23() {
         CommitteePlanner planner = Make.committee();
-        Check.dueUnchanged("23: earliest", 2100, planner, () -> planner.earliest(0));
+        Check.due("23: earliest", 2100, () -> planner.earliest(0));
         planner.setBusy(0, 21, 1, true);
         Check.due("23: a busy hour", 2120, () -> planner.earliest(0));
         planner.setBusy(1, 21, 3, true);
@@ -198,7 +198,7 @@ public final class DefencesTest {
         Check.fails("23: no such thesis", INDEX, () -> planner.earliest(1));
         Check.fails("23: no such thesis", INDEX, () -> planner.earliest(-1));
         planner.addThesis(0, 0, 0, 0);
-        Check.failsUnchanged("23: no quorum", NONE, planner, () -> planner.earliest(1));
+        Check.fails("23: no quorum", NONE, () -> planner.earliest(1));
         CommitteePlanner done = Make.defended();
         Check.fails("23: defended", NONE, () -> done.earliest(0));
         CommitteePlanner late = Make.committee();
@@ -212,7 +212,7 @@ public final class DefencesTest {
         late.setBusy(0, 400, 4, true);
         Check.due("23: the last hours", 40050, () -> late.earliest(0));
         late.setBusy(0, 400, 6, true);
-        Check.failsUnchanged("23: none up to day 400", NONE, late, () -> late.earliest(0));
+        Check.fails("23: none up to day 400", NONE, () -> late.earliest(0));
         late.setBusy(0, 400, 6, false);
         late.pass(1);
         Check.fails("23: too late", NONE, () -> late.earliest(0));
@@ -264,21 +264,21 @@ public final class DefencesTest {
 
     private static void promise25() {
         CommitteePlanner planner = Make.committee();
-        Check.failsUnchanged("25: not placed", STATE, planner, () -> planner.goOn(0));
-        Check.failsUnchanged("25: no such thesis", INDEX, planner, () -> planner.goOn(1));
+        Check.fails("25: not placed", STATE, () -> planner.goOn(0));
+        Check.fails("25: no such thesis", INDEX, () -> planner.goOn(1));
         planner.place(0, 0, 30, 0);
         Check.due("25: submitted", 1, () -> planner.goOn(0));
         Check.due("25: reported", 2, () -> planner.goOn(0));
         Check.due("25: announced", 3, () -> planner.goOn(0));
-        Check.failsUnchanged("25: not on the day", STATE, planner, () -> planner.goOn(0));
+        Check.fails("25: not on the day", STATE, () -> planner.goOn(0));
         planner.pass(29);
-        Check.failsUnchanged("25: a day ahead", STATE, planner, () -> planner.goOn(0));
+        Check.fails("25: a day ahead", STATE, () -> planner.goOn(0));
         planner.takeBack(0);
-        Check.failsUnchanged("25: not placed", STATE, planner, () -> planner.goOn(0));
+        Check.fails("25: not placed", STATE, () -> planner.goOn(0));
         planner.undo();
         planner.pass(1);
         Check.due("25: defended", 4, () -> planner.goOn(0));
-        Check.failsUnchanged("25: defended already", STATE, planner, () -> planner.goOn(0));
+        Check.fails("25: defended already", STATE, () -> planner.goOn(0));
         Check.due("25: undo", 5, planner::undo);
         Check.due("25: undone", 3, () -> planner.thesis(0, 4));
         Check.due("25: the place", 30, () -> planner.thesis(0, 7));
@@ -292,7 +292,7 @@ public final class DefencesTest {
         planner.place(1, 0, 40, 0);
         Check.due("26: the first of two", 9, planner::mostUrgent);
         planner.goOn(0);
-        Check.dueUnchanged("26: the second of two", 19, planner, planner::mostUrgent);
+        Check.due("26: the second of two", 19, planner::mostUrgent);
         planner.goOn(1);
         Check.due("26: next stages", 20, planner::mostUrgent);
         planner.pass(20);

@@ -30,7 +30,7 @@ public final class HistoryTest {
             Check.due("37: undo", left, planner::undo);
             Check.due("37: persons", persons, () -> planner.account(0));
         }
-        Check.failsUnchanged("37: the oldest ones are forgotten", NONE, planner, planner::undo);
+        Check.fails("37: the oldest ones are forgotten", NONE, planner::undo);
         planner.addPerson(2, 3, 1, 4);
         Check.due("37: a change behind undos", 0, planner::undo);
         planner.addPerson(0, 1, 0, 6);
@@ -122,7 +122,7 @@ public final class HistoryTest {
         planner.await(planner.addThesis(1, 2, 3, 4));
         planner.pass(9);
         String saved = Sight.of(planner);
-        Check.dueUnchanged("38: save", 2, planner, planner::save);
+        Check.due("38: save", 2, planner::save);
         planner.pass(9);
         planner.setBusy(3, 33, 3, false);
         planner.setBusy(3, 34, 3, true);
@@ -146,7 +146,7 @@ public final class HistoryTest {
 
     private static void promise39() {
         CommitteePlanner planner = Make.committee();
-        Check.failsUnchanged("39: nothing was saved", STATE, planner, planner::restore);
+        Check.fails("39: nothing was saved", STATE, planner::restore);
         Check.due("39: the history stays then", 5, planner::undo);
         planner.save();
         planner.join(0, 3);

@@ -102,7 +102,7 @@ public final class PersonsTest {
             {0, 0, 0, 0}, {0, 0, 0, 7}, {Integer.MIN_VALUE, 0, 0, 1}, {0, Integer.MAX_VALUE, 0, 1},
             {0, 0, 0, Integer.MIN_VALUE}};
         for (int[] a : wrong) {
-            Check.failsUnchanged("3: addPerson out of range", ARGUMENT, planner,
+            Check.fails("3: addPerson out of range", ARGUMENT,
                     () -> planner.addPerson(a[0], a[1], a[2], a[3]));
         }
         Check.due("3: addPerson", 0, () -> planner.addPerson(0, 0, 0, 1));
@@ -116,7 +116,7 @@ public final class PersonsTest {
         for (int i = 3; i < 14; i++) {
             Check.due("3: addPerson", i, () -> planner.addPerson(1, 1, 1, 1));
         }
-        Check.failsUnchanged("3: a fifteenth person", STATE, planner, () -> planner.addPerson(1, 1, 1, 1));
+        Check.fails("3: a fifteenth person", STATE, () -> planner.addPerson(1, 1, 1, 1));
         Check.fails("3: out of range comes first", ARGUMENT, () -> planner.addPerson(3, 1, 1, 1));
         Check.due("3: persons", 14, () -> planner.account(0));
     }
@@ -136,9 +136,9 @@ public final class PersonsTest {
         Check.due("4: others stay", 32, () -> planner.person(0, 4));
         Check.due("4: off on the other side", 0, () -> planner.person(1, 4));
         Check.due("4: nothing different is a change", 5, planner::undo);
-        Check.failsUnchanged("4: both the same", ARGUMENT, planner, () -> planner.setConflict(3, 3, true));
-        Check.failsUnchanged("4: first does not exist", INDEX, planner, () -> planner.setConflict(6, 0, true));
-        Check.failsUnchanged("4: second does not exist", INDEX, planner, () -> planner.setConflict(0, -1, true));
+        Check.fails("4: both the same", ARGUMENT, () -> planner.setConflict(3, 3, true));
+        Check.fails("4: first does not exist", INDEX, () -> planner.setConflict(6, 0, true));
+        Check.fails("4: second does not exist", INDEX, () -> planner.setConflict(0, -1, true));
         Check.fails("4: the same who do not exist", INDEX, () -> planner.setConflict(6, 6, true));
     }
 
@@ -159,7 +159,7 @@ public final class PersonsTest {
         Check.fails("5: no such person", INDEX, () -> planner.setBusy(6, -1, 0, true));
         int[][] wrong = {{-1, 0}, {401, 0}, {0, -1}, {0, 8}, {Integer.MAX_VALUE, 0}, {0, Integer.MIN_VALUE}};
         for (int[] a : wrong) {
-            Check.failsUnchanged("5: out of range", ARGUMENT, planner, () -> planner.setBusy(0, a[0], a[1], true));
+            Check.fails("5: out of range", ARGUMENT, () -> planner.setBusy(0, a[0], a[1], true));
         }
         CommitteePlanner full = Make.professors(2);
         for (int day = 0; day < 20; day++) {
@@ -260,6 +260,6 @@ public final class PersonsTest {
         last.setBusy(0, 399, 2, true);
         Check.due("8: the last day", 400, () -> last.freeDay(0));
         last.setBusy(0, 400, 7, true);
-        Check.failsUnchanged("8: none up to 400", NONE, last, () -> last.freeDay(0));
+        Check.fails("8: none up to 400", NONE, () -> last.freeDay(0));
     }
 }

@@ -58,7 +58,7 @@ public final class RandomRunsTest {
                 one(random.nextInt(2) == 0 ? "addPerson" : "addThesis");
             } else if (kind < 3) {
                 one(random.nextInt(4) == 0 ? "clear" : "save");
-                if (planner.account(0) == 0) {
+                if (reference.account(0) == 0) {
                     setUp();
                 }
             } else if (kind < 4) {
@@ -247,7 +247,7 @@ public final class RandomRunsTest {
     }
 
     private int someDay() {
-        int today = planner.account(7);
+        int today = reference.account(7);
         if (isLively && random.nextInt(8) != 0) {
             // few days, so that defences and busy hours meet
             int group = (today / 50 + 1) * 50;
@@ -285,7 +285,8 @@ public final class RandomRunsTest {
     }
 
     private void compare(String text, Check.Call call, Check.Call dueCall) {
-        if (differs) {
+        // what an object answers behind its 512th call is free
+        if (differs || calls.size() >= CALLS) {
             return;
         }
         String got = Check.outcome(call);

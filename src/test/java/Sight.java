@@ -1,47 +1,64 @@
-/** All that can be asked of a planner without a change, as one text. */
+/**
+ * What can be asked of a planner, as one text. An object is used for at most 512 calls, so nothing is
+ * asked here that follows from other answers.
+ */
 final class Sight {
 
     private Sight() {
     }
 
+    /** The state, the reason and the error position. */
     static String of(CommitteePlanner planner) {
+        return ofState(planner) + " reason " + Check.outcome(planner::reason)
+                + " error " + Check.outcome(planner::errorPosition);
+    }
+
+    /** All that the history remembers. */
+    static String ofState(CommitteePlanner planner) {
         StringBuilder text = new StringBuilder();
-        for (int account = 0; account < 10; account++) {
-            add(text, "account" + account, planner.account(account));
-        }
-        for (int person = 0; person < planner.account(0); person++) {
-            addPerson(text, planner, person);
+        addAccounts(text, planner);
+        for (int i = 0; i < planner.account(0); i++) {
+            int person = i;
+            for (int what = 0; what < 8; what++) {
+                add(text, "person" + person + "." + what, planner.person(person, what));
+            }
+            text.append(" free ").append(Check.outcome(() -> planner.freeDay(person)));
         }
         for (int thesis = 0; thesis < planner.account(1); thesis++) {
-            addThesis(text, planner, thesis);
+            for (int what = 0; what < 11; what++) {
+                add(text, "thesis" + thesis + "." + what, planner.thesis(thesis, what));
+            }
         }
         for (int place = 0; place < planner.account(6); place++) {
             add(text, "waiting" + place, planner.waiting(place));
         }
-        text.append(" load ").append(Check.outcome(planner::meanLoad));
-        text.append(" urgent ").append(Check.outcome(planner::mostUrgent));
-        text.append(" reason ").append(Check.outcome(planner::reason));
-        text.append(" error ").append(Check.outcome(planner::errorPosition));
         return text.toString();
     }
 
-    private static void addPerson(StringBuilder text, CommitteePlanner planner, int person) {
-        for (int what = 0; what < 8; what++) {
-            add(text, "person" + person + "." + what, planner.person(person, what));
+    /** What is behind the state: the history, the input and what was saved. The planner is used up by it. */
+    static String behind(CommitteePlanner planner) {
+        StringBuilder text = new StringBuilder();
+        for (int i = 0; i < 7; i++) {
+            text.append(" undo ").append(Check.outcome(planner::undo));
         }
-        text.append(" free ").append(Check.outcome(() -> planner.freeDay(person)));
+        addShort(text, planner);
+        text.append(" input ").append(Check.outcome(() -> planner.append('d')));
+        text.append(" restore ").append(Check.outcome(planner::restore));
+        addShort(text, planner);
+        return text.toString();
     }
 
-    private static void addThesis(StringBuilder text, CommitteePlanner planner, int thesis) {
-        for (int what = 0; what < 11; what++) {
-            add(text, "thesis" + thesis + "." + what, planner.thesis(thesis, what));
+    private static void addShort(StringBuilder text, CommitteePlanner planner) {
+        addAccounts(text, planner);
+        for (int thesis = 0; thesis < planner.account(1); thesis++) {
+            add(text, "members" + thesis, planner.thesis(thesis, 5));
+            add(text, "day" + thesis, planner.thesis(thesis, 7));
         }
-        for (int what = 0; what < 5; what++) {
-            add(text, "lacks" + thesis + "." + what, planner.lacks(thesis, what));
-        }
-        for (int stage = 1; stage <= 4; stage++) {
-            int due = stage;
-            text.append(" deadline ").append(Check.outcome(() -> planner.deadline(thesis, due)));
+    }
+
+    private static void addAccounts(StringBuilder text, CommitteePlanner planner) {
+        for (int account = 0; account < 10; account++) {
+            add(text, "account" + account, planner.account(account));
         }
     }
 

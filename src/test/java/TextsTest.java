@@ -72,7 +72,7 @@ public final class TextsTest {
 
     private static void cannot(String text, CommitteePlanner planner) {
         Make.type(planner, text);
-        Check.failsUnchanged("35: " + text, STATE, planner, planner::read);
+        Check.fails("35: " + text, STATE, planner::read);
         Check.due("35: the input is empty", 1, () -> planner.append('d'));
         Make.type(planner, "x");
         Check.fails("35: a wrong text", ARGUMENT, planner::read);
@@ -159,7 +159,7 @@ public final class TextsTest {
         Check.due("36: stays then too", 3, planner::errorPosition);
         planner.undo();
         planner.clear();
-        Check.dueUnchanged("36: stays behind clear", 3, planner, planner::errorPosition);
+        Check.due("36: stays behind clear", 3, planner::errorPosition);
         wrongAt("x", 0);
         wrongAt(";", 0);
         wrongAt("J0,1;", 0);
